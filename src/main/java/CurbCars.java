@@ -181,9 +181,8 @@ public final class CurbCars {
     public int move(int c, int x) throws IndexOutOfBoundsException, IllegalStateException {
         requireCar(c);
         requireCell(x);
-        requireParked(c);
         if (!now.canShift(c, x)) {
-            throw new IllegalStateException("the car cannot be moved there");
+            throw new IllegalStateException("the car is not parked, or cannot be moved there");
         }
         history.remember(now);
         return now.shift(c, x);

@@ -1,3 +1,5 @@
+import java.math.BigInteger;
+
 /** For each promise of ../shared/DOC.md: ordinary inputs, the edges that it names, and wrong inputs. */
 public final class PromisesTest {
 
@@ -442,6 +444,9 @@ public final class PromisesTest {
         check.due("12: rule 1, the other", 18, () -> shortest.carOf(1, 3));
         shortest.come(5, 9);
         check.due("12: rule 1, a longer one", 0, () -> shortest.carOf(2, 3));
+        CurbCars empty = street("Sr1");
+        empty.come(5, 9);
+        check.due("12: rule 1, one gap of all cells", 0, () -> empty.carOf(0, 3));
         CurbCars chance = new CurbCars();
         chance.set(0, 2);
         chance.come(2, 9);
@@ -646,6 +651,23 @@ public final class PromisesTest {
         check.due("18: the leave", 0, () -> x.carOf(0, 2));
         x.hydrant(79, false);
         check.due("18: nothing different is an action too", 2, x::undo);
+        CurbCars y = only(0, 3);
+        y.come(8, 9);
+        y.minutes(2);
+        y.minutes(2);
+        check.due("18: gone round for four", 4, () -> y.carOf(0, 5));
+        y.undo();
+        check.due("18: gone round for two", 2, () -> y.carOf(0, 5));
+        y.undo();
+        y.undo();
+        y.hydrant(4, false);
+        y.come(4, 9);
+        dueCar("18: another car has nothing of the one taken back", y, 0, 4, 9, 0, 0, 0, 0, 9);
+        y.minutes(1);
+        y.undo();
+        y.undo();
+        y.come(8, 9);
+        dueCar("18: nor has a third one", y, 0, 8, 9, 1, NONE, 0, 0, NONE);
     }
 
     private static void why() {
@@ -724,6 +746,13 @@ public final class PromisesTest {
         // the gaps have 1, 3 and 74 cells
         check.due("21: a gap with fewer cells than the room", 35, () -> x.fits(2, 0));
         check.due("21: the same by gaps", 35, () -> x.fits(2, 1));
+        CurbCars z = only(10, 16);
+        for (int way = 0; way <= 1; way++) {
+            int w = way;
+            check.due("21: as many cells as are needed, " + way, 2, () -> z.fits(3, w));
+            check.due("21: one, " + way, 1, () -> z.fits(6, w));
+            check.due("21: a cell too few, " + way, 0, () -> z.fits(7, w));
+        }
         CurbCars y = new CurbCars();
         for (int c = 0; c < 40; c++) {
             y.come(2, 1);
@@ -907,6 +936,7 @@ public final class PromisesTest {
         CurbCars y = only(0, 4);
         check.due("25: does not park as told", NONE, () -> y.runScript(1, 150500L));
         check.due("25: does not park", 0, () -> y.runScript(1, 150501L));
+        check.due("25: does not park, b is 2", 0, () -> y.runScript(1, 150502L));
         check.due("25: reason 2", NONE, () -> y.runScript(1, 750002L));
         check.due("25: reason 1", NONE, () -> y.runScript(1, 760001L));
         check.due("25: goes round and gives up", NONE, () -> y.runScript(3, 150500400005800003L));
@@ -938,6 +968,111 @@ public final class PromisesTest {
         y.come(8, 5);
         y.set(2, 1);
         check.due("26: who gives up in it counts", 105, () -> y.simulate(1L, 1));
+        turns();
+    }
+
+    private static final BigInteger FACTOR = BigInteger.valueOf(6364136223846793005L);
+    private static final BigInteger ADDEND = BigInteger.valueOf(1442695040888963407L);
+    private static final BigInteger TWO64 = BigInteger.ONE.shiftLeft(64);
+
+    /** A seed from which the first turn has this r, and this remainder of chance below it. */
+    private static long seedFor(long r, long below) {
+        BigInteger x = BigInteger.valueOf(r).shiftLeft(33).add(BigInteger.valueOf(below));
+        return x.subtract(ADDEND).multiply(FACTOR.modInverse(TWO64)).longValue();
+    }
+
+    /** A seed from which the first turn has this r, and the second one this kind and this q modulo a number. */
+    private static long seedForTwo(long r, int kind, int q, int modulo) {
+        for (long below = 0; ; below++) {
+            BigInteger x = BigInteger.valueOf(r).shiftLeft(33).add(BigInteger.valueOf(below));
+            long second = x.multiply(FACTOR).add(ADDEND).mod(TWO64).shiftRight(33).longValueExact();
+            if (second % 8 == kind && second / 8 % modulo == q) {
+                return seedFor(r, below);
+            }
+        }
+    }
+
+    private static void dueTurn(String name, int want, CurbCars x, int q, int kind) {
+        check.due("26: " + name, want, () -> x.simulate(seedFor(8L * q + kind, 5), 1));
+    }
+
+    private static void turns() {
+        CurbCars x = new CurbCars();
+        for (int kind = 0; kind <= 2; kind++) {
+            dueTurn("come(2, 1)", 10078, x, 0, kind);
+            dueTurn("come(8, 1)", 10072, x, 6, kind);
+            dueTurn("come(2, 2)", 10078, x, 14, kind);
+            dueTurn("come(5, 4)", 10075, x, 24, kind);
+        }
+        dueTurn("hydrant(3, false) where none is", 80, x, 3, 4);
+        dueTurn("hydrant(49, true)", 79, x, 129, 4);
+        dueTurn("hydrant(16, true)", 79, x, 256, 4);
+        dueTurn("hydrant(64, false)", 80, x, 384, 4);
+        dueTurn("leave of no car", 80, x, 7, 3);
+        x.come(2, 8);
+        x.come(3, 9);
+        x.come(4, 6);
+        x.hydrant(79, true);
+        x.hydrant(69, true);
+        dueTurn("leave(1)", 20072, x, 1, 3);
+        dueTurn("leave(2)", 20073, x, 2, 3);
+        dueTurn("leave(2), by 42", 20073, x, 42, 3);
+        dueTurn("leave(3) of no car", 30069, x, 43, 3);
+        dueTurn("hydrant(79, false)", 30070, x, 79, 4);
+        dueTurn("hydrant(69, false) by 389", 30070, x, 389, 4);
+        dueTurn("hydrant(0, true) on a car", 30069, x, 160, 4);
+        dueTurn("hydrant(0, false) on a car", 30069, x, 0, 4);
+        for (int kind = 6; kind <= 7; kind++) {
+            dueTurn("minutes(5)", 30069, x, 4, kind);
+            dueTurn("minutes(6)", 20073, x, 5, kind);
+            dueTurn("minutes(9)", 78, x, 8, kind);
+            dueTurn("minutes(1)", 30069, x, 9, kind);
+        }
+        // a room is set, and then a car comes: the gaps are 0 to 4 and 6 to 8
+        CurbCars y = street("S");
+        fillOutside(y, 0, 8);
+        y.hydrant(5, true);
+        for (int room = 0; room <= 4; room++) {
+            int q = 8 * room + 4;
+            int parks = room <= 3 ? 10006 : 8;
+            check.due("26: set(1, " + room + "), come(2, ..)", parks, () -> y.simulate(seedForTwo(8L * q + 5, 0, 0, 7), 2));
+            int threeParks = room <= 2 ? 10005 : 8;
+            check.due("26: set(1, " + room + "), come(3, ..)", threeParks, () -> y.simulate(seedForTwo(8L * q + 5, 0, 1, 7), 2));
+        }
+        rulesOfTurns();
+    }
+
+    private static void rulesOfTurns() {
+        CurbCars z = only(0, 9);
+        z.set(1, 0);
+        z.hydrant(3, true);
+        z.hydrant(6, true);
+        // the gaps are 0 to 2, 4 5 and 7 to 9: by rule 0 a car of 2 breaks the first, by rule 1 it takes the second
+        check.due("26: set(0, 0), come(2, ..), come(3, ..)", 20003, () -> z.simulate(threeTurns(0), 3));
+        z.come(3, 50);
+        // the gaps are 4 5 and 7 to 9
+        check.due("26: set(0, 1), come(2, ..), come(3, ..)", 30000, () -> z.simulate(threeTurns(1), 3));
+        z.leave(0);
+        z.hydrant(9, true);
+        // the gaps are 0 to 2, 4 5 and 7 8: a car of 3 fits behind one of 2 by rule 1 alone
+        check.due("26: by rule 0 the second goes round", 10005, () -> z.simulate(threeTurns(0), 3));
+        check.due("26: by rule 1 both park", 20002, () -> z.simulate(threeTurns(1), 3));
+    }
+
+    /** A seed from which the turns are set(0, rule), come(2, ..) and come(3, ..). */
+    private static long threeTurns(int rule) {
+        for (long below = 0; ; below++) {
+            // q / 4 % 2 is 0, and q % 3 is the rule
+            long q = rule == 0 ? 72 : 73;
+            BigInteger x = BigInteger.valueOf(8 * q + 5).shiftLeft(33).add(BigInteger.valueOf(below));
+            BigInteger second = x.multiply(FACTOR).add(ADDEND).mod(TWO64);
+            BigInteger third = second.multiply(FACTOR).add(ADDEND).mod(TWO64);
+            long r2 = second.shiftRight(33).longValueExact();
+            long r3 = third.shiftRight(33).longValueExact();
+            if (r2 % 8 <= 2 && r2 / 8 % 7 == 0 && r3 % 8 <= 2 && r3 / 8 % 7 == 1) {
+                return seedFor(8 * q + 5, below);
+            }
+        }
     }
 
     private static void saveAndRestore() {
