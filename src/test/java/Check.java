@@ -1,3 +1,6 @@
+import java.util.Timer;
+import java.util.TimerTask;
+
 /** Compares what a call answers with what is due, and counts what differs. */
 final class Check {
 
@@ -5,10 +8,25 @@ final class Check {
         long answer();
     }
 
+    /** Far above what the tests take: it ends those of a program that does not end. */
+    private static final long LIMIT = 300_000;
+
     private int wrong;
     private int done;
 
+    Check() {
+        Timer timer = new Timer(true);
+        timer.schedule(new TimerTask() {
+            @Override
+            public void run() {
+                System.out.println("a call does not end");
+                Runtime.getRuntime().halt(1);
+            }
+        }, LIMIT);
+    }
+
     void due(String name, long want, Call call) {
+        done++;
         long got;
         try {
             got = call.answer();
@@ -16,7 +34,6 @@ final class Check {
             report(name + " threw " + e + ", due is " + want);
             return;
         }
-        done++;
         if (got != want) {
             report(name + " answered " + got + ", due is " + want);
         }
@@ -45,6 +62,10 @@ final class Check {
 
     void state(String name, Call call) {
         dueThrow(name, IllegalStateException.class, call);
+    }
+
+    int done() {
+        return done;
     }
 
     void report(String what) {

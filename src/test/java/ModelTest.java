@@ -88,8 +88,9 @@ public final class ModelTest {
         return low + random.nextInt(high - low + 1);
     }
 
+    /** The model is asked, for the program is used for at most 512 calls. */
     private int aCar() {
-        int came = program.about(0);
+        int came = model.about(0);
         return came == 0 || random.nextInt(12) == 0 ? anyOf(0, 39) : random.nextInt(came);
     }
 
@@ -108,7 +109,7 @@ public final class ModelTest {
             case "hydrant":
                 return anyOf(0, 79);
             case "gap":
-                return anyOf(0, Math.max(0, program.about(7)));
+                return anyOf(0, Math.max(0, model.about(7)));
             case "setting":
             case "set":
                 return anyOf(0, 2);
