@@ -391,6 +391,18 @@ final class TextSentences extends Sentences {
                 is("minutes for which car " + c + " has been parked", 0, used.carOf(c, 4));
                 is("minutes for which car " + c + " has gone round", 0, used.carOf(c, 5));
             }
+            CurbCars parkedBefore = only(0, 4);
+            parkedBefore.come(4, 99);
+            parkedBefore.minutes(3);
+            write(parkedBefore, "S");
+            parkedBefore.load();
+            is("minutes of a car that is no more", 0, parkedBefore.about(11));
+            CurbCars roundBefore = full();
+            roundBefore.come(2, 99);
+            write(roundBefore, "S");
+            roundBefore.load();
+            is("a car that is no more does not park", 0, roundBefore.minutes(1));
+            is("nor stands anywhere", NONE, roundBefore.at(0));
             CurbCars z = written("Sc209p01h79+");
             z.load();
             z.load();
